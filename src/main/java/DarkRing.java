@@ -711,7 +711,7 @@ public final class DarkRing {
         }
 
         boolean hasStep(int feature, int step) {
-            return hasFeature(feature) && step >= 0 && step < stepsOf(feature);
+            return step >= 0 && step < stepsOf(feature);
         }
 
         boolean hasKey(int key) {
@@ -742,7 +742,7 @@ public final class DarkRing {
         }
 
         int feltAs(int feature, int step, int felt) {
-            if (!hasStep(feature, step) || !hasStep(feature, felt)) return 0;
+            if (step < 0 || step >= MOST_STEPS || felt < 0 || felt >= MOST_STEPS) return 0;
             return at(sixteenths, (feature * MOST_STEPS + step) * MOST_STEPS + felt);
         }
 
@@ -750,7 +750,8 @@ public final class DarkRing {
         int stepAt(int key, int feature, int way) {
             if (!hasKey(key) || !hasFeature(feature)) return NONE;
             int step = at(keySteps, key * MOST_FEATURES + feature);
-            return way == 1 && isTurned(feature) ? stepsOf(feature) - 1 - step : step;
+            boolean isOtherWayRound = way == 1 && at(turnedFeatures, feature) == 1;
+            return isOtherWayRound ? at(steps, feature) - 1 - step : step;
         }
 
         int feltAsAt(int key, int feature, int way, int felt) {
@@ -758,7 +759,7 @@ public final class DarkRing {
         }
 
         boolean unlocks(int key, int door) {
-            return hasKey(key) && (openersOf(door) >> key & 1) == 1;
+            return hasDoor(door) && hasKey(key) && (at(openers, door) >> key & 1) == 1;
         }
 
         int openersOf(int door) {
@@ -964,9 +965,8 @@ public final class DarkRing {
 
         /** THOUGHT as at first. */
         void beginAgain() {
-            for (int place = 0; place < places; place++) {
-                keepLongAt(weights, 2 * place, SIXTEEN - house.turned);
-                keepLongAt(weights, 2 * place + 1, house.turned);
+            for (int i = 0; i < PLACES_AND_WAYS; i++) {
+                weights[i] = (i & 1) == 0 ? SIXTEEN - house.turned : house.turned;
             }
             shareOut();
         }
@@ -975,40 +975,46 @@ public final class DarkRing {
             return place >= 0 && place < places ? at(row, place) : NONE;
         }
 
+        int placesAndWays() {
+            return Math.min(2 * places, PLACES_AND_WAYS);
+        }
+
         long partOf(int place, int way) {
             return longAt(parts, 2 * place + way);
         }
 
         /** The weights shared out; false, and all is as it was, if all are 0. */
         private boolean shareOut() {
+            int many = placesAndWays();
             long together = 0;
             int greatest = 0;
-            for (int i = 0; i < 2 * places; i++) {
-                together += longAt(weights, i);
-                if (longAt(weights, i) > longAt(weights, greatest)) greatest = i;
+            for (int i = 0; i < many; i++) {
+                together += weights[i];
+                if (weights[i] > weights[greatest]) greatest = i;
             }
             if (together <= 0) return false;
             long lacking = ALL_PARTS;
-            for (int i = 0; i < 2 * places; i++) {
-                long share = longAt(weights, i) * ALL_PARTS / together;
-                keepLongAt(parts, i, share);
-                lacking -= share;
+            for (int i = 0; i < many; i++) {
+                parts[i] = weights[i] * ALL_PARTS / together;
+                lacking -= parts[i];
             }
-            keepLongAt(parts, greatest, longAt(parts, greatest) + lacking);
+            parts[greatest] += lacking;
             return true;
         }
 
         boolean learnFelt(int feature, int felt) {
-            for (int i = 0; i < 2 * places; i++) {
-                keepLongAt(weights, i, longAt(parts, i) * house.feltAsAt(keyAt(i >> 1), feature, i & 1, felt));
+            int many = placesAndWays();
+            for (int i = 0; i < many; i++) {
+                long part = parts[i];
+                weights[i] = part == 0 ? 0 : part * house.feltAsAt(keyAt(i >> 1), feature, i & 1, felt);
             }
             return shareOut();
         }
 
         boolean learnTried(int door, boolean isOpen) {
-            for (int i = 0; i < 2 * places; i++) {
-                boolean isSo = house.unlocks(keyAt(i >> 1), door) == isOpen;
-                keepLongAt(weights, i, isSo ? longAt(parts, i) : 0);
+            int many = placesAndWays();
+            for (int i = 0; i < many; i++) {
+                weights[i] = house.unlocks(keyAt(i >> 1), door) == isOpen ? parts[i] : 0;
             }
             return shareOut();
         }
@@ -1022,9 +1028,8 @@ public final class DarkRing {
         static void moved(long[] from, int i, long[] to, int j, int places) {
             for (int place = 0; place < places; place++) {
                 int next = inRing(place + 1, places);
-                int ahead = inRing(place - 1, places);
                 keepLongAt(to, j + 2 * next, longAt(from, i + 2 * place));
-                keepLongAt(to, j + 2 * ahead + 1, longAt(from, i + 2 * place + 1));
+                keepLongAt(to, j + 2 * place + 1, longAt(from, i + 2 * next + 1));
             }
         }
 
@@ -1062,6 +1067,7 @@ public final class DarkRing {
         private final House house;
         private final Thought thought;
         private final long[] weights = new long[(MOST_ACTS + 1) * PLACES_AND_WAYS];
+        private int many;
         private int door;
         long mostWorth;
         int firstAct;
@@ -1074,7 +1080,8 @@ public final class DarkRing {
         /** The WORTH of k ACTS, times 16 for each of them, and the first one of the best. */
         void weigh(int forDoor, int k) {
             door = forDoor;
-            for (int i = 0; i < 2 * thought.places; i++) {
+            many = thought.placesAndWays();
+            for (int i = 0; i < many; i++) {
                 keepLongAt(weights, i, thought.partOf(i >> 1, i & 1));
             }
             mostWorth = NONE;
@@ -1124,7 +1131,7 @@ public final class DarkRing {
         /** What opens is told; what does not open is left for the next level. */
         private long tryInto(int level) {
             long opened = 0;
-            for (int i = 0; i < 2 * thought.places; i++) {
+            for (int i = 0; i < many; i++) {
                 long weight = longAt(weights, first(level) + i);
                 boolean isOpen = house.unlocks(thought.keyAt(i >> 1), door);
                 if (isOpen) opened += weight;
@@ -1135,7 +1142,7 @@ public final class DarkRing {
 
         private boolean feelInto(int level, int feature, int felt) {
             boolean some = false;
-            for (int i = 0; i < 2 * thought.places; i++) {
+            for (int i = 0; i < many; i++) {
                 long weight = longAt(weights, first(level) + i);
                 if (weight != 0) weight *= house.feltAsAt(thought.keyAt(i >> 1), feature, i & 1, felt);
                 if (weight != 0) some = true;
@@ -1175,13 +1182,16 @@ public final class DarkRing {
             return place >= 0 && place < places;
         }
 
-        private boolean opensAt(int place, int door) {
-            return hasPlace(place) && house.unlocks(at(row, place), door);
+        /** Of a set of KEYS, as a DOOR has one. */
+        private boolean isOf(int set, int place) {
+            int key = at(row, place);
+            return key != NONE && (set >> key & 1) == 1;
         }
 
         boolean someOpens(int door) {
+            int openers = house.openersOf(door);
             for (int i = 0; i < places; i++) {
-                if (opensAt(i, door)) return true;
+                if (isOf(openers, i)) return true;
             }
             return false;
         }
@@ -1192,9 +1202,10 @@ public final class DarkRing {
 
         /** Of a DOOR that some KEY opens; else of all that are tried. */
         int secondsFrom(int door, int place, int way) {
+            int openers = house.openersOf(door);
             int tries = 1;
             int now = place;
-            while (tries < places && !opensAt(now, door)) {
+            while (tries < places && !isOf(openers, now)) {
                 now = inRing(way == 0 ? now + 1 : now - 1, places);
                 tries++;
             }
@@ -1206,13 +1217,14 @@ public final class DarkRing {
          * PLACES between two such KEYS the first one needs so many tries as the last one with the other way.
          */
         private int secondsFromAll(int door) {
+            int openers = house.openersOf(door);
             int tries = 0;
-            int sum = 0;
+            int together = 0;
             for (int i = 2 * places - 1; i >= 0; i--) {
-                tries = opensAt(inRing(i, places), door) ? 1 : tries + 1;
-                if (i < places) sum += secondsOfTries(tries);
+                tries = isOf(openers, i < places ? i : i - places) ? 1 : tries + 1;
+                if (i < places) together += tries;
             }
-            return sum;
+            return together * house.secondsOf(House.TRY) + (together - places) * house.secondsOf(House.GO);
         }
 
         int wantedTogether() {
@@ -1261,11 +1273,12 @@ public final class DarkRing {
 
         /** How many PLACES on with way 0 it is. */
         private int stepsOnToNearest(int place, int door) {
+            int openers = house.openersOf(door);
             int nearest = 0;
             int least = places;
             for (int on = 0; on < places; on++) {
                 int far = Math.min(on, places - on);
-                if (far < least && opensAt(inRing(place + on, places), door)) {
+                if (far < least && isOf(openers, inRing(place + on, places))) {
                     least = far;
                     nearest = on;
                 }
@@ -1556,7 +1569,7 @@ public final class DarkRing {
         private int end;
         int number;
         private int sign;
-        private long letters;
+        long letters;
         int fault = NONE;
         int faultPlace = NONE;
 
@@ -1661,17 +1674,11 @@ public final class DarkRing {
             return kind == NUMBER;
         }
 
-        private boolean isTakenWord() {
-            return is("feature") || is("steps") || is("turned") || is("feels") || is("key") || is("ring")
+        boolean isName() {
+            if (kind != WORD || letters == 0) return false;
+            return !(is("feature") || is("steps") || is("turned") || is("feels") || is("key") || is("ring")
                     || is("door") || is("wanted") || is("by") || is("seconds") || is("feel") || is("try")
-                    || is("go") || is("drop") || is("round");
-        }
-
-        /** The NAME at hand; 0, and a FAULT, if there is none. */
-        long nameHere() {
-            if (kind == WORD && letters != 0 && !isTakenWord()) return letters;
-            refuse(2);
-            return 0;
+                    || is("go") || is("drop") || is("round"));
         }
 
         /** What is no TOKEN is that ahead of all else that may be wrong with it. */
@@ -1729,6 +1736,7 @@ public final class DarkRing {
         private final long[] keyNames = new long[MOST_KEYS];
         private final long[] ringNames = new long[MOST_RINGS];
         private final long[] doorNames = new long[MOST_DOORS];
+        private int keysOnRings;
         private int feelsTold;
         private boolean secondsTold;
         private boolean turnedTold;
@@ -1739,6 +1747,7 @@ public final class DarkRing {
 
         boolean readAll() {
             fresh.clear();
+            keysOnRings = 0;
             feelsTold = 0;
             secondsTold = false;
             turnedTold = false;
@@ -1774,8 +1783,11 @@ public final class DarkRing {
 
         /** A NAME that nothing has; 0, and a FAULT, if there is none. */
         private long takeNewName() {
-            long name = text.nameHere();
-            if (name == 0) return 0;
+            long name = text.letters;
+            if (!text.isName()) {
+                text.refuse(2);
+                return 0;
+            }
             if (isTaken(name)) {
                 text.refuse(3);
                 return 0;
@@ -1786,9 +1798,11 @@ public final class DarkRing {
 
         /** The number of the thing that is named here, which stays at hand; NONE, and a FAULT, if it is none. */
         private int thingHere(long[] names, int many) {
-            long name = text.nameHere();
-            if (name == 0) return NONE;
-            int thing = placeOf(name, names, many);
+            if (!text.isName()) {
+                text.refuse(2);
+                return NONE;
+            }
+            int thing = placeOf(text.letters, names, many);
             if (thing == NONE) text.refuse(3);
             return thing;
         }
@@ -1861,8 +1875,9 @@ public final class DarkRing {
             for (int i = 0; i <= MOST_KEYS && !text.isSign(';'); i++) {
                 int key = thingHere(keyNames, fresh.keys);
                 if (key == NONE) return false;
-                if (fresh.ringOf(key) != NONE) return text.refuse(5);
-                fresh.putOn(key, ring, fresh.manyOn(ring));
+                if ((keysOnRings >> key & 1) == 1) return text.refuse(5);
+                keysOnRings |= 1 << key;
+                fresh.putOn(key, ring, i);
                 text.advance();
             }
             return text.takeSign(';');
@@ -1892,16 +1907,22 @@ public final class DarkRing {
             if (secondsTold) return text.refuse(5);
             secondsTold = true;
             text.advance();
-            return readSecondsOf("feel", House.FEEL) && readSecondsOf("try", House.TRY)
-                    && readSecondsOf("go", House.GO) && readSecondsOf("drop", House.DROP) && text.takeSign(';');
+            for (int act = House.FEEL; act <= House.DROP; act++) {
+                if (!text.takeWord(wordOf(act))) return false;
+                int many = text.takeNumber(1, 99);
+                if (many == NONE) return false;
+                fresh.setSeconds(act, many);
+            }
+            return text.takeSign(';');
         }
 
-        private boolean readSecondsOf(String word, int act) {
-            if (!text.takeWord(word)) return false;
-            int many = text.takeNumber(1, 99);
-            if (many == NONE) return false;
-            fresh.setSeconds(act, many);
-            return true;
+        private static String wordOf(int act) {
+            switch (act) {
+                case House.FEEL: return "feel";
+                case House.TRY: return "try";
+                case House.GO: return "go";
+                default: return "drop";
+            }
         }
 
         private boolean readTurned() {
@@ -1946,6 +1967,7 @@ public final class DarkRing {
 
         int lines = 0;
         int steps = 0;
+        boolean asksSure = false;
         private final int[] kinds = new int[MOST_LINES];
         private final int[] features = new int[MOST_LINES];
         private final int[] compares = new int[MOST_LINES];
@@ -1955,12 +1977,14 @@ public final class DarkRing {
         void clear() {
             lines = 0;
             steps = 0;
+            asksSure = false;
         }
 
         static void copy(Rule from, Rule to) {
             if (from == null || to == null) return;
             to.lines = from.lines;
             to.steps = from.steps;
+            to.asksSure = from.asksSure;
             System.arraycopy(from.kinds, 0, to.kinds, 0, MOST_LINES);
             System.arraycopy(from.features, 0, to.features, 0, MOST_LINES);
             System.arraycopy(from.compares, 0, to.compares, 0, MOST_LINES);
@@ -1995,6 +2019,7 @@ public final class DarkRing {
             keepAt(numbers, lines, number);
             lines++;
             if (kind != BLOCK_END) steps++;
+            if (kind == WHEN_SURE) asksSure = true;
         }
 
         void pair(int begin, int endOfIt) {
@@ -2030,19 +2055,30 @@ public final class DarkRing {
 
         private boolean readStep() {
             if (text.is("end")) return readEnd();
-            boolean isBlock = text.is("when") || text.is("loop");
-            if (!isBlock && plainKind() == NONE) return text.refuse(2);
+            boolean isLoop = text.is("loop");
+            boolean isBlock = isLoop || text.is("when");
+            int kind = plainKind();
+            if (!isBlock && kind == NONE) return text.refuse(2);
             if (fresh.steps >= Rule.MOST_STEPS_TOLD) return text.refuse(6);
             if (isBlock && depth >= DEEPEST) return text.refuse(7);
-            if (isBlock) return readBlock();
-            int kind = plainKind();
-            int feature = NONE;
             text.advance();
+            if (isLoop) return readLoop() && beginBlock();
+            return isBlock ? readWhen() && beginBlock() : readPlain(kind);
+        }
+
+        private boolean readPlain(int kind) {
+            int feature = NONE;
             if (kind == Rule.FEEL) {
                 feature = takeFeature();
                 if (feature == NONE) return false;
             }
             fresh.add(kind, feature, 0, 0);
+            return text.takeSign(';');
+        }
+
+        private boolean beginBlock() {
+            keepAt(begun, depth, fresh.lines - 1);
+            depth++;
             return text.takeSign(';');
         }
 
@@ -2055,16 +2091,6 @@ public final class DarkRing {
             return text.is("stop") ? Rule.STOP : NONE;
         }
 
-        private boolean readBlock() {
-            boolean isLoop = text.is("loop");
-            text.advance();
-            boolean isRead = isLoop ? readLoop() : readWhat();
-            if (!isRead) return false;
-            keepAt(begun, depth, fresh.lines - 1);
-            depth++;
-            return text.takeSign(';');
-        }
-
         private boolean readLoop() {
             int times = text.takeNumber(1, 9);
             if (times == NONE) return false;
@@ -2072,8 +2098,18 @@ public final class DarkRing {
             return true;
         }
 
-        private boolean readWhat() {
-            if (text.is("felt")) return readFelt();
+        private boolean readWhen() {
+            if (text.is("felt")) {
+                text.advance();
+                int feature = takeFeature();
+                if (feature == NONE) return false;
+                int compare = text.takeCompare();
+                if (compare == NONE) return false;
+                int step = text.takeNumber(0, MOST_STEPS - 1);
+                if (step == NONE) return false;
+                fresh.add(Rule.WHEN_FELT, feature, compare, step);
+                return true;
+            }
             if (text.is("tried")) {
                 text.advance();
                 fresh.add(Rule.WHEN_TRIED, NONE, 0, 0);
@@ -2086,22 +2122,12 @@ public final class DarkRing {
             return true;
         }
 
-        private boolean readFelt() {
-            text.advance();
-            int feature = takeFeature();
-            if (feature == NONE) return false;
-            int compare = text.takeCompare();
-            if (compare == NONE) return false;
-            int step = text.takeNumber(0, MOST_STEPS - 1);
-            if (step == NONE) return false;
-            fresh.add(Rule.WHEN_FELT, feature, compare, step);
-            return true;
-        }
-
         private int takeFeature() {
-            long name = text.nameHere();
-            if (name == 0) return NONE;
-            int feature = house.featureNamed(name);
+            if (!text.isName()) {
+                text.refuse(2);
+                return NONE;
+            }
+            int feature = house.featureNamed(text.letters);
             if (feature == NONE) {
                 text.refuse(3);
             } else {
@@ -2120,7 +2146,10 @@ public final class DarkRing {
         }
     }
 
-    /** A RULE as it is PLAYED, and what is kept of the game played latest. */
+    /**
+     * A RULE as it is PLAYED, and what is kept of the game played latest. Nothing but sure asks for THOUGHT: a RULE
+     * without it learns nothing.
+     */
     private static final class Game {
         static final int MOST_STEPS_DONE = 200;
         /** Far above the ends of 200 loops of nine rounds each. */
@@ -2167,7 +2196,16 @@ public final class DarkRing {
             thought.begin(ring);
             dropped();
             for (int i = 0; i < MOST_LINES_COME_TO && !isOver && line < rule.lines; i++) {
-                playLine();
+                int kind = rule.kindAt(line);
+                if (kind == Rule.BLOCK_END) {
+                    playEnd();
+                } else if (steps >= MOST_STEPS_DONE) {
+                    cutOff = true;
+                    isOver = true;
+                } else {
+                    steps++;
+                    playStep(kind);
+                }
             }
         }
 
@@ -2205,19 +2243,6 @@ public final class DarkRing {
         private void forgetHere() {
             Arrays.fill(feltHere, NONE);
             triedHere = false;
-        }
-
-        private void playLine() {
-            int kind = rule.kindAt(line);
-            if (kind == Rule.BLOCK_END) {
-                playEnd();
-            } else if (steps >= MOST_STEPS_DONE) {
-                cutOff = true;
-                isOver = true;
-            } else {
-                steps++;
-                playStep(kind);
-            }
         }
 
         private void playEnd() {
@@ -2274,7 +2299,7 @@ public final class DarkRing {
                 upTo += house.feltAsAt(thought.keyAt(place), feature, way, i);
             }
             keepAt(feltHere, feature, felt);
-            thought.learnFelt(feature, felt);
+            if (rule.asksSure) thought.learnFelt(feature, felt);
         }
 
         private void playTry() {
@@ -2284,7 +2309,7 @@ public final class DarkRing {
             if (house.unlocks(thought.keyAt(place), door)) {
                 open = true;
                 isOver = true;
-            } else {
+            } else if (rule.asksSure) {
                 thought.learnTried(door, false);
             }
         }
