@@ -1095,15 +1095,13 @@ public final class DarkRing {
             }
         }
 
-        /** To feel is of no use with less than three ACTS left: one to feel, and but one behind it, to try. */
+        /**
+         * Behind the first ACT at most three are left, and then to feel is never best: the two behind a feeling open
+         * the DOOR here or at the next PLACE, or not at all, which to try, to go on and to try does as well.
+         */
         private long worthOf(int level, int k) {
             if (k <= 0 || level > MOST_ACTS) return 0;
-            int kinds = k == 1 ? 1 : k == 2 ? 2 : FEEL + house.features;
-            long most = 0;
-            for (int act = 0; act < kinds; act++) {
-                most = Math.max(most, worthAfter(act, level, k));
-            }
-            return most;
+            return Math.max(worthAfter(TRY, level, k), worthAfter(GO, level, k));
         }
 
         private long worthAfter(int act, int level, int k) {

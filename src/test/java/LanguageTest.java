@@ -100,7 +100,7 @@ public final class LanguageTest {
             boolean isPlain = f.getType().isPrimitive() || f.getType() == String.class;
             must(isPlain && Modifier.isFinal(f.getModifiers()), "static and final, of numbers or a text: " + f);
         }
-        must(fields <= 21, "some twenty fields, " + fields + " in " + c);
+        must(fields <= 20, "some twenty fields, " + fields + " in " + c);
     }
 
     private static String withoutTexts(String source) {

@@ -6,6 +6,7 @@ import java.util.Random;
 public final class ModelTest {
     private static int wrong = 0;
     private static long calls = 0;
+    private static int feltFirst = 0;
     private static final int[] OFTEN = new int[64 * 12];
 
     private final Random random;
@@ -25,6 +26,13 @@ public final class ModelTest {
         for (int run = 0; run < runs && wrong < 20; run++) {
             new ModelTest(run).play();
         }
+        for (int run = 0; run < 150 && wrong < 20; run++) {
+            new ModelTest(run).playActs();
+        }
+        if (feltFirst < 50) {
+            wrong++;
+            System.out.println("to feel was best but " + feltFirst + " times");
+        }
         for (int kind = 0; args.length > 1 && kind < 60; kind++) {
             StringBuilder row = new StringBuilder("kind " + kind + ":");
             for (int s = 0; s < 12; s++) row.append(' ').append(OFTEN[kind * 12 + s]);
@@ -39,6 +47,33 @@ public final class ModelTest {
         house();
         for (int i = 0; i < 330 && wrong < 20; i++) {
             one(random.nextInt(60));
+        }
+    }
+
+    /** Long rings with one key that opens and a thumb that hardly errs: here it may be best to feel first. */
+    private void playActs() {
+        int keys = 4 + random.nextInt(4);
+        StringBuilder house = new StringBuilder("feature f steps 2" + (once(2) ? " turned;" : ";"));
+        house.append("feature g steps 4" + (once(3) ? " turned;" : ";"));
+        if (once(2)) house.append("feels g 14 2 0 0 1 15 0 0 0 1 14 1 0 0 0 16;");
+        if (once(3)) house.append("feels f 15 1 4 12;");
+        for (int k = 0; k < keys; k++) {
+            house.append("key ").append((char) ('m' + k)).append(' ').append(random.nextInt(2));
+            house.append(' ').append(random.nextInt(4)).append(';');
+        }
+        house.append("ring a");
+        for (int k = 0; k < keys; k++) house.append(' ').append((char) ('m' + k));
+        house.append(";door d wanted 1 by ").append((char) ('m' + random.nextInt(keys)));
+        house.append(";turned ").append(once(2) ? 0 : random.nextInt(17)).append(';');
+        String text = house.toString();
+        feed(text);
+        compare(9, text, x.house(text.length()), m.house(text.length()));
+        compare(24, "take(0)", n(x.take(0)), n(m.take(0)));
+        for (int i = 0; i < 6; i++) {
+            compare(31, "worth(0, 4)", n(x.worth(0, 4)), n(m.worth(0, 4)));
+            compare(32, "next(0, 4)", x.next(0, 4), m.next(0, 4));
+            if (x.next(0, 4) > 1) feltFirst++;
+            second(24 + random.nextInt(5));
         }
     }
 

@@ -182,6 +182,11 @@ public final class ThoughtTest {
         due.is("worth(0, 4)", x, x.worth(0, 4), true, 0);
         due.fraction("worth(0, 4)", x, 3, 4);
         due.is("next(0, 4)", x, x.next(0, 4), 3, 0);
+        // The first step tells as much as the others do.
+        x = fresh(house.replace("key a 0 0;key b 0 1;key c 0 2;key e 0 3;", "key a 0 3;key b 0 2;key c 0 1;key e 0 0;"));
+        x.take(0);
+        due.is("worth(0, 4)", x, x.worth(0, 4), true, 0);
+        due.fraction("worth(0, 4)", x, 3, 4);
         // With a thumb that feels b as c half of the time: of what is felt as c the c alone is searched for.
         x = fresh(house.replace("key a", "feels f 16 0 0 0 0 8 8 0 0 0 16 0 0 0 0 16;key a"));
         x.take(0);
