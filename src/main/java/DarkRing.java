@@ -1350,9 +1350,9 @@ public final class DarkRing {
         /** RINGS in a row; the MEAN is meanTop by meanBottom. */
         boolean findRings(int door) {
             int many = loadRings(door);
+            if (!hasRingThatOpens(many)) return false;
             boolean isFirst = true;
-            boolean goesOn = hasRingThatOpens(many);
-            if (!goesOn) return false;
+            boolean goesOn = true;
             long leastTop = 0;
             long leastBottom = 1;
             for (int i = 0; i < MOST_ORDERS && goesOn; i++) {
