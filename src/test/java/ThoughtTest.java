@@ -6,11 +6,17 @@ public final class ThoughtTest {
 
     public static void main(String[] args) {
         taken();
+        sharedOut();
         felt();
+        inARing();
         lentOnes();
         wrong();
+        cannotBe();
+        hereAndOpens();
         worth();
+        worthOfNone();
         toFeelFirst();
+        theOtherWayRound();
         due.end("ThoughtTest");
     }
 
@@ -51,6 +57,175 @@ public final class ThoughtTest {
         x = fresh("key a;key b;key c;ring r a b c;turned 9;");
         x.take(0);
         parts("more turned", x, 145833, 187501, 145833, 187500, 145833, 187500);
+    }
+
+    /**
+     * Promise 25: of each number of PLACES and each TURNED the parts are rounded down, what lacks comes to the greatest
+     * weight: of several the least PLACE, then way 0.
+     */
+    private static void sharedOut() {
+        String keys = "";
+        String on = "";
+        for (int n = 1; n <= 10; n++) {
+            keys += "key " + (char) ('a' + n) + ";";
+            on += " " + (char) ('a' + n);
+            for (int turned = 0; turned <= 16; turned++) {
+                DarkRing x = fresh(keys + "ring r" + on + ";turned " + turned + ";");
+                due.is("take(0)", x, x.take(0), true, 0);
+                int one = (16 - turned) * 1000000 / (16 * n);
+                int other = turned * 1000000 / (16 * n);
+                int lacks = 1000000 - n * (one + other);
+                for (int place = 0; place < n; place++) {
+                    boolean isFirst = place == 0;
+                    due.is("way 0", x.part(place, 0), one + (isFirst && turned <= 8 ? lacks : 0));
+                    due.is("way 1", x.part(place, 1), other + (isFirst && turned > 8 ? lacks : 0));
+                }
+                due.is("no more places", x, x.part(n, 0), -1, 5);
+            }
+        }
+        // Of two greatest weights at other places the first one gets what lacks: of 3, 7, 7 sixteenths.
+        DarkRing x = fresh("feature f steps 3;feels f 3 13 0 7 9 0 7 9 0;key a 0;key b 1;key c 2;ring r a b c;turned 0;");
+        x.take(0);
+        x.feel(0, 0);
+        parts("3, 7, 7", x, 176471, 0, 411765, 0, 411764, 0);
+        x.take(0);
+        x.feel(0, 1);
+        parts("13, 9, 9", x, 419356, 0, 290322, 0, 290322, 0);
+    }
+
+    /** Promises 28, 29: on from the last PLACE to the first, back from the first to the last; n times is as it was. */
+    private static void inARing() {
+        DarkRing x = fresh("feature f steps 4;key a 0;key b 1;key c 2;key d 3;ring r a b c d;turned 4;");
+        x.take(0);
+        x.feel(0, 3);
+        parts("at the last place", x, 0, 0, 0, 0, 0, 0, 750000, 250000);
+        due.is("goOn()", x, x.goOn(), true, 0);
+        parts("way 0 from the last to the first", x, 750000, 0, 0, 0, 0, 250000, 0, 0);
+        x.goOn();
+        parts("two", x, 0, 0, 750000, 250000, 0, 0, 0, 0);
+        x.goOn();
+        parts("way 1 from the first ..", x, 0, 250000, 0, 0, 750000, 0, 0, 0);
+        x.goOn();
+        parts(".. to the last", x, 0, 0, 0, 0, 0, 0, 750000, 250000);
+        x.goOn();
+        due.is("turn()", x, x.turn(), true, 0);
+        parts("turned where one is", x, 0, 750000, 0, 0, 250000, 0, 0, 0);
+        x.goOn();
+        parts("way 1 from the first to the last", x, 0, 0, 0, 0, 0, 0, 250000, 750000);
+        x.turn();
+        x.turn();
+        parts("twice is as it was", x, 0, 0, 0, 0, 0, 0, 250000, 750000);
+        x = fresh("key a;key b;ring r a b;door d wanted 1 by a;turned 4;");
+        x.take(0);
+        x.tried(0, true);
+        x.goOn();
+        parts("two places, either way", x, 0, 0, 750000, 250000);
+        x = fresh("key a;ring r a;turned 4;");
+        x.take(0);
+        x.goOn();
+        parts("one place", x, 750000, 250000);
+        x.turn();
+        x.goOn();
+        parts("one place, turned", x, 250000, 750000);
+    }
+
+    /** Promises 27, 30: 9 just if all weights are 0; then all is as it was. */
+    private static void cannotBe() {
+        DarkRing x = fresh("feature f steps 2;feels f 15 1 16 0;feature g steps 2;key a 0 0;key b 1 0;ring r a b;"
+                + "door d wanted 1 by a;door e wanted 1 by a b;turned 0;");
+        x.take(0);
+        due.is("feel(1, 1)", x, x.feel(1, 1), false, 9);
+        parts("as at first", x, 500000, 0, 500000, 0);
+        due.is("feel(1, 0)", x, x.feel(1, 0), true, 0);
+        parts("it tells nothing", x, 500000, 0, 500000, 0);
+        due.is("feel(0, 1), by one sixteenth", x, x.feel(0, 1), true, 0);
+        parts("it tells all", x, 1000000, 0, 0, 0);
+        due.is("tried(0, false)", x, x.tried(0, false), false, 9);
+        due.is("tried(1, false)", x, x.tried(1, false), false, 9);
+        parts("as it was", x, 1000000, 0, 0, 0);
+        due.is("tried(1, true)", x, x.tried(1, true), true, 0);
+        x.goOn();
+        due.is("feel(0, 1) of the other one", x, x.feel(0, 1), false, 9);
+        due.is("tried(0, true)", x, x.tried(0, true), false, 9);
+        parts("as it was", x, 0, 0, 1000000, 0);
+        due.is("tried(0, false)", x, x.tried(0, false), true, 0);
+        due.is("held still", x, x.many(10), 0, 0);
+    }
+
+    /** Promises 31, 32: from 0 to all; a KEY of another RING, a LENT one, one that lies about are not there. */
+    private static void hereAndOpens() {
+        DarkRing x = fresh("key a;key b;key c;key d;key e;ring r a b c;ring q d;door u wanted 0 by a b c;"
+                + "door v wanted 1 by a d;door w wanted 1 by d e;turned 8;");
+        x.take(0);
+        due.is("here(0)", x, x.here(0), true, 0);
+        due.fraction("166670 and 166666", x, 41667, 125000);
+        due.is("here(2)", x, x.here(2), true, 0);
+        due.fraction("166666 and 166666", x, 83333, 250000);
+        due.is("here(3), of another ring", x, x.here(3), true, 0);
+        due.fraction("here(3)", x, 0, 1);
+        due.is("here(4), that lies about", x, x.here(4), true, 0);
+        due.fraction("here(4)", x, 0, 1);
+        due.is("opens(0), by all", x, x.opens(0), true, 0);
+        due.fraction("opens(0)", x, 1, 1);
+        due.is("opens(1), by one of it", x, x.opens(1), true, 0);
+        due.fraction("opens(1)", x, 41667, 125000);
+        due.is("opens(2), by none of it", x, x.opens(2), true, 0);
+        due.fraction("opens(2)", x, 0, 1);
+        x.tried(1, true);
+        x.here(0);
+        due.fraction("here(0), surely", x, 1, 1);
+        x.lend(0, true);
+        x.take(0);
+        due.is("here(0), lent", x, x.here(0), true, 0);
+        due.fraction("here(0), lent", x, 0, 1);
+        x.opens(0);
+        due.fraction("opens(0), by those that are there", x, 1, 1);
+        x.opens(1);
+        due.fraction("opens(1), by a lent one", x, 0, 1);
+    }
+
+    /** Promises 33, 34: k from 0 to 4, a DOOR that no KEY there opens, one that each opens. */
+    private static void worthOfNone() {
+        DarkRing x = fresh("feature f steps 2;key a 0;key b 0;key c 0;key d 0;key e 1;ring r a b c d;door u wanted 0 by e;"
+                + "door v wanted 0 by a b c d;door w wanted 0 by d;turned 8;");
+        x.take(0);
+        for (int k = 0; k <= 4; k++) {
+            due.is("worth(0, " + k + ")", x, x.worth(0, k), true, 0);
+            due.fraction("worth(0, " + k + ")", x, 0, 1);
+            due.is("worth(1, " + k + ")", x, x.worth(1, k), true, 0);
+            due.fraction("worth(1, " + k + ")", x, k > 0 ? 1 : 0, 1);
+            int[] quarters = {0, 1, 1, 2, 2};
+            due.is("worth(2, " + k + ")", x, x.worth(2, k), true, 0);
+            due.fraction("worth(2, " + k + ")", x, quarters[k] == 0 ? 0 : 1, quarters[k] == 0 ? 1 : 4 / quarters[k]);
+            if (k == 0) continue;
+            due.is("next(0, " + k + "), of several the least", x, x.next(0, k), 0, 0);
+            due.is("next(1, " + k + ")", x, x.next(1, k), 0, 0);
+            due.is("next(2, " + k + ")", x, x.next(2, k), 0, 0);
+        }
+        due.is("worth(0, 5)", x, x.worth(0, 5), false, 5);
+        due.is("worth(0, -1)", x, x.worth(0, -1), false, 5);
+        due.is("next(0, 5)", x, x.next(0, 5), -1, 5);
+        due.is("next(0, 0)", x, x.next(0, 0), -1, 5);
+        parts("nothing is done", x, 125000, 125000, 125000, 125000, 125000, 125000, 125000, 125000);
+    }
+
+    /**
+     * The ring is held the other way round: e is met as STEP 0, b as 2. If 0 is felt as 2 half of the time, of what is
+     * felt as 2 the b alone is searched for; held as told, a would be felt so, which is out of reach.
+     */
+    private static void theOtherWayRound() {
+        String house = "feature f steps 4 turned;feels f 8 0 8 0 0 16 0 0 0 0 16 0 0 0 0 16;key a 0;key b 1;key c 2;key e 3;"
+                + "ring r e c b a;door d wanted 1 by e;turned 16;";
+        DarkRing x = fresh(house);
+        x.take(0);
+        due.is("worth(0, 4)", x, x.worth(0, 4), true, 0);
+        due.fraction("the other way round", x, 5, 8);
+        due.is("next(0, 4)", x, x.next(0, 4), 2, 0);
+        x = fresh(house.replace("turned 16", "turned 0").replace("e c b a", "a b c e"));
+        x.take(0);
+        due.is("worth(0, 4)", x, x.worth(0, 4), true, 0);
+        due.fraction("as told", x, 3, 4);
+        due.is("next(0, 4)", x, x.next(0, 4), 2, 0);
     }
 
     /** Promises 27 to 32; each number is worked out by hand. */
