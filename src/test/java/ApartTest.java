@@ -19,6 +19,7 @@ public final class ApartTest {
         missingOfAll();
         soon();
         soonOfAll();
+        theOnlyOne();
         newly();
         newlyRound();
         due.end("ApartTest");
@@ -327,7 +328,9 @@ public final class ApartTest {
         due.is("5 ahead of 9", x, x.soon(1, 1, 17, 4), -1, 5);
         due.is("5 ahead of 8", x, x.soon(0, 0, 0, 0), -1, 5);
         due.is("9 ahead of 8", x, x.soon(5, 2, 0, 1), -1, 9);
-        due.is("it opens nothing", x, x.soon(3, 0, 4, 1), -1, 9);
+        due.is("it does not open it", x, x.soon(3, 0, 4, 1), -1, 9);
+        due.is("none there opens it", x, x.soon(3, 2, 4, 1), -1, 9);
+        due.is("none there opens it", x, x.missing(3, 2, 4, 1), false, 9);
     }
 
     /** Promise 48. */
@@ -350,6 +353,34 @@ public final class ApartTest {
         due.is("it lies about", x, x.soon(5, 2, 4, 1), -1, 9);
         x.lend(0, true);
         due.is("it is lent", x, x.soon(0, 0, 4, 1), -1, 9);
+    }
+
+    /** Promises 47, 48: another one that opens, at each other PLACE; it does not count if it is LENT, or elsewhere. */
+    private static void theOnlyOne() {
+        for (int key = 0; key < 4; key++) {
+            for (int other = 0; other < 5; other++) {
+                if (other == key) continue;
+                DarkRing x = fresh("key a;key b;key c;key d;key e;ring r a b c d;ring q e;door x wanted 1 by "
+                        + (char) ('a' + key) + " " + (char) ('a' + other) + ";");
+                boolean isOnly = other == 4;
+                due.is("missing(" + key + ") beside " + other, x, x.missing(key, 0, 8, 1), isOnly, isOnly ? 0 : 9);
+                due.is("soon(" + key + ") beside " + other, x, x.soon(key, 0, 8, 8), isOnly ? 0 : -1, isOnly ? 0 : 9);
+                x.lend(other, true);
+                due.is("the other one is lent", x, x.missing(key, 0, 8, 1), true, 0);
+                due.is("the other one is lent", x, x.soon(key, 0, 8, 8), 0, 0);
+                x.lend(other, false);
+                x.off(other);
+                due.is("the other one lies about", x, x.missing(key, 0, 8, 1), true, 0);
+                due.is("the other one lies about", x, x.soon(key, 0, 8, 8), 0, 0);
+                x.lend(key, true);
+                due.is("it is lent itself", x, x.missing(key, 0, 8, 0), false, 9);
+                due.is("it is lent itself", x, x.soon(key, 0, 8, 8), -1, 9);
+                x.lend(key, false);
+                x.off(key);
+                due.is("it lies about itself", x, x.missing(key, 0, 8, 0), false, 9);
+                due.is("it lies about itself", x, x.soon(key, 0, 8, 8), -1, 9);
+            }
+        }
     }
 
     /** Promise 49: with 4 seconds a try and 1 to go on, so many tries are 5 times so many, less 1. */

@@ -19,6 +19,8 @@ public final class FaultsTest {
         tooMany();
         feels();
         feelsOfMore();
+        numbersOfKeys();
+        namesTooMany();
         leastKind();
         firstAlongTheText();
         nothingStays();
@@ -167,6 +169,8 @@ public final class FaultsTest {
     private static void nameLengths() {
         fine(2, "key a;key b;");
         fine(2, "key a;key aa;");
+        fine(2, "key ab;key ba;");
+        fine(3, "key abc;key acb;key cab;");
         fine(2, "key abcdefgh;key abcdefgi;");
         fine(2, "key bbcdefgh;key abcdefgh;");
         fine(2, "key zzzzzzzz;key zzzzzzz;");
@@ -377,6 +381,44 @@ public final class FaultsTest {
         house(9, "feature f steps 4;feels f 16 16 16 ^16;");
         fine(0, "feature f steps 2;feature g steps 2;feels g 16 0 0 16;feels f 0 16 16 0;");
         house(5, "feature f steps 2;feature g steps 2;feels g 16 0 0 16;feels ^g 17;");
+    }
+
+    /** Of none to three FEATURES: a STEP of each, not one less, not one more. */
+    private static void numbersOfKeys() {
+        String features = "";
+        for (int n = 0; n <= 3; n++) {
+            String key = "key a";
+            for (int i = 0; i < n; i++) {
+                house(8, features + key + "^;");
+                house(2, features + key + "^");
+                house(2, features + key + " ^b;");
+                key += " " + i % 2;
+            }
+            fine(1, features + key + ";");
+            house(8, features + key + " ^0;");
+            house(8, features + key + " ^4 9;");
+            house(8, features + key + " ^0");
+            features += "feature f" + (char) ('a' + n) + " steps 2;";
+        }
+    }
+
+    /** Behind all ten KEYS on a RING, at a DOOR there is no other one that may come. */
+    private static void namesTooMany() {
+        String ring = TEN + "ring r a b c d e f g h i j ";
+        house(5, ring + "^j;");
+        house(5, ring + "^a;");
+        house(3, ring + "^k;");
+        house(2, ring + "^7;");
+        house(2, ring + "^");
+        house(5, ring + ";ring q ^a;");
+        String door = TEN + "door x wanted 1 by a b c d e f g h i j ";
+        fine(10, door + ";");
+        house(5, door + "^j;");
+        house(5, door + "^a;");
+        house(3, door + "^k;");
+        house(2, door + "^7;");
+        house(2, door + "^");
+        fine(10, TEN + "door x wanted 1 by j;door y wanted 1 by j;ring r j;ring q a;");
     }
 
     /** Of one TOKEN the least kind. */

@@ -127,6 +127,12 @@ public final class HandsTest {
         due.is("far above", x, x.lay(0, 0), false, 5);
         tray(x, 0, 3, 0, 1, 34);
         due.is("above", x, x.lay(0, 0), false, 5);
+        tray(x, 0, 0, -32, 1, 2);
+        due.is("far below 0", x, x.lay(0, 0), false, 5);
+        tray(x, 0, 3, Long.MIN_VALUE, 1, 2);
+        due.is("as far below 0 as can be", x, x.lay(0, 0), false, 5);
+        tray(x, 0, 3, 0, 1, Long.MAX_VALUE);
+        due.is("as far above as can be", x, x.lay(0, 0), false, 5);
         tray(x, 0, 0, 0, 1, 2, 0);
         due.is("one again behind all", x, x.lay(0, 0), false, 5);
         ring(x, 0, 0, 1, 2);

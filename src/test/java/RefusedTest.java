@@ -62,7 +62,7 @@ public final class RefusedTest {
         Due.feed(x, "key a;ring r a;");
     }
 
-    private static DarkRing made() {
+    static DarkRing made() {
         DarkRing x = new DarkRing();
         full(x);
         ahead.accept(x);
@@ -280,6 +280,7 @@ public final class RefusedTest {
         refused(2, "put(-1, 0, 0)", x -> x.put(-1, 0, 0));
         refused(2, "put(5, 3, 0)", x -> x.put(5, 3, 0));
         refused(2, "put(5, -1, 0)", x -> x.put(5, -1, 0));
+        refused(2, "put(0, 3, 9)", x -> x.put(0, 3, 9));
         refused(5, "put(5, 0, 4)", x -> x.put(5, 0, 4));
         refused(5, "put(5, 0, -1)", x -> x.put(5, 0, -1));
         refused(5, "put(0, 0, 4)", x -> x.put(0, 0, 4));

@@ -22,6 +22,7 @@ public final class RuleTest {
         thoughtByAll();
         loops();
         loopsAgain();
+        mostSteps();
         limit();
         limitOfEach();
         secondsTogether();
@@ -300,6 +301,23 @@ public final class RuleTest {
         play("loop 2;end;loop 3;end;", 0, 0, 2, 0, 0, 1, 0, 0);
         play("when sure 0;end;turn;", 0, 0, 2, 0, 0, 1, 1, 0);
         play("when sure 16;end;turn;", 0, 0, 2, 0, 0, 1, 1, 0);
+    }
+
+    /** 30 STEPS, as many ends as may be with them, in 300 bytes. */
+    private static void mostSteps() {
+        String[] rules = {"loop1;end;".repeat(30), "loop1;end;".repeat(29) + "try;", "loop1;go;end;".repeat(15),
+            "loop1;loop1;go;end;end;".repeat(10), "loop1;loop1;loop1;end;end;end;".repeat(10), "go;".repeat(30),
+            "when tried;end;".repeat(20), "go;try;turn;".repeat(10)};
+        int[] told = {30, 30, 30, 30, 30, 30, 20, 30};
+        int[] place = {1, 1, 1, 2, 1, 1, 1, 1};
+        for (int i = 0; i < rules.length; i++) {
+            DarkRing x = new DarkRing();
+            Due.house(x, HOUSE);
+            due.is(rules[i], x, Due.rule(x, rules[i]), told[i], 0);
+            x.play(0, 1, 0);
+            due.is(rules[i] + " steps", x, x.played(1), told[i], 0);
+            due.is(rules[i] + " place", x, x.played(4), place[i], 0);
+        }
     }
 
     /** 199 STEPS, 200, and one more of each kind: it is left to be done, be it a stop, a try, a when, a loop. */

@@ -12,11 +12,14 @@ public final class ThoughtTest {
         lentOnes();
         wrong();
         cannotBe();
+        leastPart();
         hereAndOpens();
         worth();
         worthOfNone();
         toFeelFirst();
+        fromEachPlace();
         theOtherWayRound();
+        nextAlone();
         due.end("ThoughtTest");
     }
 
@@ -150,6 +153,27 @@ public final class ThoughtTest {
         parts("as it was", x, 0, 0, 1000000, 0);
         due.is("tried(0, false)", x, x.tried(0, false), true, 0);
         due.is("held still", x, x.many(10), 0, 0);
+    }
+
+    /** Promises 27, 30: a part of 1 by 1,000,000 is enough, none is not; each is 15th of the one ahead, rounded down. */
+    private static void leastPart() {
+        String house = "feature f steps 2;feels f 15 1 1 15;feature g steps 2;key a 0 0;key b 1 1;ring r a b;"
+                + "door d wanted 1 by b;turned 0;";
+        int[] left = {500000, 62500, 4424, 296, 19, 1, 0};
+        for (int times = 0; times <= 6; times++) {
+            for (int i = 0; i < 3; i++) {
+                DarkRing x = fresh(house);
+                x.take(0);
+                for (int k = 0; k < times; k++) due.is("feel(0, 0)", x, x.feel(0, 0), true, 0);
+                parts("felt so often", x, 1000000 - left[times], 0, left[times], 0);
+                boolean is = i == 0 ? x.tried(0, true) : i == 1 ? x.feel(1, 1) : x.tried(0, false);
+                boolean can = i == 2 || times < 6;
+                due.is("the least part", x, is, can, can ? 0 : 9);
+                boolean isHere = can && i < 2;
+                int first = isHere ? 0 : 1000000;
+                parts("behind it", x, first, 0, 1000000 - first, 0);
+            }
+        }
     }
 
     /** Promises 31, 32: from 0 to all; a KEY of another RING, a LENT one, one that lies about are not there. */
@@ -368,5 +392,57 @@ public final class ThoughtTest {
         due.is("worth(0, 4)", x, x.worth(0, 4), true, 0);
         due.fraction("worth(0, 4)", x, 5, 8);
         due.is("next(0, 4)", x, x.next(0, 4), 3, 0);
+    }
+
+    /** Promise 34: of so many ACTS for that DOOR, whatever was asked ahead; it tells no FRACTION. */
+    private static void nextAlone() {
+        String house = "feature g steps 2;feature f steps 4;key a 0 0;key b 0 1;key c 0 2;key e 0 3;ring r a b c e;"
+                + "key z 0 0;door d wanted 1 by e;door o wanted 1 by a b c e;door n wanted 1 by z;turned 0;";
+        int[] first = {0, 0, 0, 3};
+        for (int k = 1; k <= 4; k++) {
+            DarkRing x = fresh(house);
+            x.take(0);
+            due.is("next(0, " + k + "), the first call", x, x.next(0, k), first[k - 1], 0);
+            due.fraction("next tells none", x, 0, 1);
+            x.worth(1, 4);
+            due.is("next(0, " + k + "), behind another door's", x, x.next(0, k), first[k - 1], 0);
+            due.fraction("that of worth()", x, 1, 1);
+            x.worth(0, 5 - k);
+            due.is("next(2, " + k + "), of none", x, x.next(2, k), 0, 0);
+            x.next(0, 4);
+            due.is("worth(2, " + k + ")", x, x.worth(2, k), true, 0);
+            due.fraction("worth(2, " + k + ")", x, 0, 1);
+            due.is("next(0, 4)", x, x.next(0, 4), 3, 0);
+        }
+        // To go on first: surely the next one opens.
+        DarkRing x = fresh(house);
+        x.take(0);
+        x.feel(1, 2);
+        int[] onTo = {0, 1, 0, 0};
+        long[] tops = {0, 1, 1, 1};
+        for (int k = 1; k <= 4; k++) {
+            due.is("next(0, " + k + "), one on", x, x.next(0, k), onTo[k - 1], 0);
+            due.is("worth(0, " + k + "), one on", x, x.worth(0, k), true, 0);
+            due.fraction("worth(0, " + k + "), one on", x, tops[k - 1], 1);
+        }
+    }
+
+    /** The same ring told from each of its PLACES on, either way: three of four places are in reach. */
+    private static void fromEachPlace() {
+        String[] rings = {"a b c e", "e a b c", "c e a b", "b c e a"};
+        for (String ring : rings) {
+            for (int turned = 0; turned <= 16; turned += 16) {
+                String house = "feature f steps 4;key a 0;key b 1;key c 2;key e 3;ring r " + ring + ";door d wanted 1 by e;"
+                        + "turned " + turned + ";";
+                DarkRing x = fresh(house);
+                x.take(0);
+                due.is("worth(0, 4)", x, x.worth(0, 4), true, 0);
+                due.fraction(ring, x, 3, 4);
+                due.is("next(0, 4)", x, x.next(0, 4), 2, 0);
+                due.is("worth(0, 3)", x, x.worth(0, 3), true, 0);
+                due.fraction(ring, x, 1, 2);
+                due.is("next(0, 3)", x, x.next(0, 3), 0, 0);
+            }
+        }
     }
 }
