@@ -277,6 +277,7 @@ public final class ApartTest {
         due.is("not the only one", x, x.missing(1, 1, 4, 0), false, 9);
         due.is("none that opens it", x, x.missing(3, 0, 4, 0), false, 9);
         due.is("it lies about", x, x.missing(5, 2, 4, 0), false, 9);
+        due.is("it lies about: no key of its ring is there", x, x.missing(5, 2, 4, 1), false, 5);
         due.is("the only one on the other ring", x, x.missing(4, 0, 8, 0), true, 0);
         due.fraction("the only one on the other ring", x, 1, 2);
         x.lend(1, true);

@@ -168,6 +168,10 @@ public final class FaultsTest {
     /** 1 to 8 letters; NAMES that differ in one letter alone are two. */
     private static void nameLengths() {
         fine(2, "key a;key b;");
+        fine(1, "feature a steps 2;feels a 16 0 0 16;key b 0;");
+        fine(1, "key b;ring a b;");
+        fine(1, "key b;door a wanted 1 by b;round a;");
+        fine(1, "key z;ring r z;");
         fine(2, "key a;key aa;");
         fine(2, "key ab;key ba;");
         fine(3, "key abc;key acb;key cab;");

@@ -98,6 +98,8 @@ public final class HandsTest {
         due.is("5", x, x.lay(0, 1), false, 5);
         tray(x, 1, 0, 0, 1, 4);
         due.is("one that lies about", x, x.lay(0, 1), false, 5);
+        tray(x, 1, 0, 0);
+        due.is("one of another ring", x, x.lay(1, 1), false, 5);
         x.lend(2, true);
         tray(x, 1, 0, 0, 1);
         due.is("without the lent one", x, x.lay(0, 1), false, 4);

@@ -277,6 +277,13 @@ public final class SearchTest {
         due.fraction("both are as good", x, 13, 2);
         found(x, 0, 1);
         due.is("none opens", x, x.inRow(0), -1, 8);
+        x = fresh("key a;key b;key c;ring r a;ring q b;ring p c;door u wanted 1 by a b c;");
+        due.is("all three open", x, x.inRow(0), 3, 0);
+        Due.house(x, "key a;key b;ring r a;door u wanted 1 by b;");
+        due.is("of a house ahead nothing opens", x, x.inRow(0), -1, 8);
+        Due.house(x, "key a;key b;ring r a;ring q b;door u wanted 1 by b;");
+        due.is("two rings", x, x.inRow(0), 2, 0);
+        found(x, 1, 0);
         x = fresh("key a;door u wanted 1 by a;");
         due.is("no ring", x, x.inRow(0), -1, 8);
         x = fresh("ring r;ring q;ring p;key a;door u wanted 1 by a;");

@@ -13,12 +13,14 @@ public final class ThoughtTest {
         wrong();
         cannotBe();
         leastPart();
+        tenPlaces();
         hereAndOpens();
         worth();
         worthOfNone();
         toFeelFirst();
         fromEachPlace();
         theOtherWayRound();
+        eachMayBe();
         nextAlone();
         due.end("ThoughtTest");
     }
@@ -174,6 +176,55 @@ public final class ThoughtTest {
                 parts("behind it", x, first, 0, 1000000 - first, 0);
             }
         }
+    }
+
+    /** Promises 25 to 32 on a RING of all ten KEYS: its last PLACE, and round it. */
+    private static void tenPlaces() {
+        String house = "feature f steps 2 turned;";
+        for (int k = 0; k < 10; k++) house += "key k" + (char) ('a' + k) + " " + k / 9 + ";";
+        house += "ring r ka kb kc kd ke kf kg kh ki kj;door d wanted 1 by kj;turned 4;";
+        DarkRing x = fresh(house);
+        due.is("take(0)", x, x.take(0), true, 0);
+        due.is("feel(0, 1)", x, x.feel(0, 1), true, 0);
+        // Way 1 at nine PLACES 25,000 each, way 0 at the last one 75,000, of 300,000; three parts lack.
+        for (int place = 0; place < 10; place++) {
+            due.is("way 0", x, x.part(place, 0), place == 9 ? 250003 : 0, 0);
+            due.is("way 1", x, x.part(place, 1), place == 9 ? 0 : 83333, 0);
+        }
+        due.is("goOn()", x, x.goOn(), true, 0);
+        due.is("way 0, round it", x, x.part(0, 0), 250003, 0);
+        due.is("way 1, round it", x, x.part(9, 1), 83333, 0);
+        due.is("way 1, from the last place back", x, x.part(8, 1), 0, 0);
+        due.is("tried(0, false)", x, x.tried(0, false), true, 0);
+        due.is("none at the last place", x, x.part(9, 1), 0, 0);
+        // 272,730 of it, and eight times 90,908: six parts lack.
+        due.is("way 0 at the first place", x, x.part(0, 0), 272736, 0);
+        due.is("turn()", x, x.turn(), true, 0);
+        due.is("turned", x, x.part(0, 1), 272736, 0);
+        due.is("goOn()", x, x.goOn(), true, 0);
+        due.is("back from the first place to the last", x, x.part(9, 1), 272736, 0);
+        due.is("tried(0, true)", x, x.tried(0, true), true, 0);
+        due.is("here(9)", x, x.here(9), true, 0);
+        due.fraction("here(9)", x, 1, 1);
+        due.is("worth(0, 4)", x, x.worth(0, 4), true, 0);
+        due.fraction("worth(0, 4)", x, 1, 1);
+        due.is("next(0, 4)", x, x.next(0, 4), 0, 0);
+    }
+
+    /**
+     * Each PLACE and way may be, whatever is felt: of what is felt as e 14 of 64 are found (try, go, try), as b 13 (go,
+     * go, try: either way), as a and as c 8 each (try, go, try).
+     */
+    private static void eachMayBe() {
+        DarkRing x = fresh("feature f steps 4;feels f 13 1 1 1 1 13 1 1 1 1 13 1 1 1 1 13;key a 0;key b 1;key c 2;key e 3;"
+                + "ring r a b c e;door d wanted 1 by e;turned 8;");
+        x.take(0);
+        due.is("worth(0, 4)", x, x.worth(0, 4), true, 0);
+        due.fraction("worth(0, 4)", x, 43, 64);
+        due.is("next(0, 4)", x, x.next(0, 4), 2, 0);
+        due.is("worth(0, 3)", x, x.worth(0, 3), true, 0);
+        due.fraction("worth(0, 3)", x, 1, 2);
+        due.is("next(0, 3)", x, x.next(0, 3), 0, 0);
     }
 
     /** Promises 31, 32: from 0 to all; a KEY of another RING, a LENT one, one that lies about are not there. */
