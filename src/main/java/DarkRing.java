@@ -428,8 +428,12 @@ public final class DarkRing {
 
     public boolean missing(int key, int door, int lent, int t) {
         if (!house.hasKey(key) || !house.hasDoor(door)) return refused(NO_SUCH);
-        int n = house.manyThere(house.ringOf(key));
-        if (lent < 0 || lent > SIXTEEN || t < 0 || t > n) return refused(NO_NUMBER);
+        if (lent < 0 || lent > SIXTEEN || t < 0) return refused(NO_NUMBER);
+        // A KEY that lies about has no RING, so there is no number of KEYS there that t could be above.
+        int ring = house.ringOf(key);
+        if (ring == NONE) return refused(CANT_BE);
+        int n = house.manyThere(ring);
+        if (t > n) return refused(NO_NUMBER);
         if (!house.isOnlyOpener(key, door) || (lent == 0 && t == n)) return refused(CANT_BE);
         return toldFraction(lent * n, lent * n + (SIXTEEN - lent) * (n - t));
     }

@@ -17,6 +17,7 @@ public final class ApartTest {
         knownTurned();
         missing();
         missingOfAll();
+        missingOfOneThatLiesAbout();
         soon();
         soonOfAll();
         theOnlyOne();
@@ -277,7 +278,6 @@ public final class ApartTest {
         due.is("not the only one", x, x.missing(1, 1, 4, 0), false, 9);
         due.is("none that opens it", x, x.missing(3, 0, 4, 0), false, 9);
         due.is("it lies about", x, x.missing(5, 2, 4, 0), false, 9);
-        due.is("it lies about: no key of its ring is there", x, x.missing(5, 2, 4, 1), false, 5);
         due.is("the only one on the other ring", x, x.missing(4, 0, 8, 0), true, 0);
         due.fraction("the only one on the other ring", x, 1, 2);
         x.lend(1, true);
@@ -309,6 +309,44 @@ public final class ApartTest {
             due.is("lent 17", x, x.missing(n - 1, 0, 17, 0), false, 5);
             due.is("lent -1", x, x.missing(n - 1, 0, -1, 0), false, 5);
             due.is("5 ahead of 9", x, x.missing(n - 1, 0, 0, n + 1), false, 5);
+        }
+    }
+
+    /** Promises 47, 2: a KEY that lies about has no RING whose KEYS t could be above: 9 with each t but one below 0. */
+    private static void missingOfOneThatLiesAbout() {
+        DarkRing x = fresh(DOORS);
+        liesAbout(x, 5, 2);
+        for (int key = 0; key < 5; key++) {
+            x = fresh(DOORS);
+            int n = key == 4 ? 1 : 4;
+            due.is("on its ring, t above n", x, x.missing(key, 0, 4, n + 1), false, 5);
+            x.off(key);
+            liesAbout(x, key, 0);
+            liesAbout(x, key, 2);
+            x.lend(key, true);
+            liesAbout(x, key, 0);
+            x.lend(key, false);
+            x.put(key, key == 4 ? 1 : 0, 0);
+            due.is("on its ring again, t above n", x, x.missing(key, 0, 4, n + 1), false, 5);
+            due.is("on its ring again, t n", x, x.missing(key, 0, 4, n), key == 0 || key == 4,
+                    key == 0 || key == 4 ? 0 : 9);
+        }
+        x = fresh("key a;door x wanted 1 by a;");
+        liesAbout(x, 0, 0);
+    }
+
+    private static void liesAbout(DarkRing x, int key, int door) {
+        int[] ts = {0, 1, 2, 3, 4, 5, 10, 11, Integer.MAX_VALUE};
+        for (int lent = 0; lent <= 16; lent += 4) {
+            for (int t : ts) {
+                due.is("it lies about, lent " + lent + ", t " + t, x, x.missing(key, door, lent, t), false, 9);
+            }
+            due.is("it lies about, t -1", x, x.missing(key, door, lent, -1), false, 5);
+        }
+        for (int t : ts) {
+            due.is("it lies about, lent 17", x, x.missing(key, door, 17, t), false, 5);
+            due.is("it lies about, lent -1", x, x.missing(key, door, -1, t), false, 5);
+            due.is("it lies about, no such door", x, x.missing(key, 5, 4, t), false, 2);
         }
     }
 

@@ -1206,8 +1206,10 @@ final class Model {
         return answerTruth(() -> {
             mustKey(k);
             mustDoor(d);
+            must(in(lent, 17) && t >= 0, 5);
+            must(ringOf(k) >= 0, 9);
             int n = there(ringOf(k)).size();
-            must(in(lent, 17) && in(t, n + 1), 5);
+            must(t <= n, 5);
             must(only(k, d), 9);
             must(lent > 0 || t < n, 9);
             // lent/16 against (16 - lent)/16 times (n - t)/n

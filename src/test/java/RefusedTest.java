@@ -482,6 +482,12 @@ public final class RefusedTest {
         refused(9, "missing(3, 1, 4, 0)", x -> x.missing(3, 1, 4, 0));
         refused(5, "missing(3, 1, 4, 1)", x -> x.missing(3, 1, 4, 1));
         refused(9, "missing(5, 1, 4, 0)", x -> x.missing(5, 1, 4, 0));
+        refused(9, "missing(5, 1, 4, 1)", x -> x.missing(5, 1, 4, 1));
+        refused(9, "missing(5, 1, 0, MOST)", x -> x.missing(5, 1, 0, MOST));
+        refused(5, "missing(5, 1, 4, -1)", x -> x.missing(5, 1, 4, -1));
+        refused(5, "missing(5, 1, 17, 1)", x -> x.missing(5, 1, 17, 1));
+        refused(5, "missing(5, 1, -1, 1)", x -> x.missing(5, 1, -1, 1));
+        refused(2, "missing(5, 3, 4, 1)", x -> x.missing(5, 3, 4, 1));
         refused(9, "soon(3, 1, 4, 1)", x -> x.soon(3, 1, 4, 1));
         refused(9, "soon(5, 1, 0, 1)", x -> x.soon(5, 1, 0, 1));
         refused(2, "newly(6, 0, 0)", x -> x.newly(6, 0, 0));
