@@ -28,7 +28,7 @@ public final class ReadmeTest {
     }
 
     private static String printed(String example) throws Exception {
-        Path folder = Files.createTempDirectory("readme");
+        Path folder = Files.createTempDirectory(Files.createDirectories(Path.of("build")), "readme");
         Path source = folder.resolve("Example.java");
         Files.writeString(source, example);
         String here = System.getProperty("java.class.path");
